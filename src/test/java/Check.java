@@ -1,0 +1,58 @@
+/** What all tests share: it counts answers that are due and prints those that are not. */
+final class Check {
+    private static int passed = 0;
+    private static int failed = 0;
+
+    private Check() {
+    }
+
+    static void due(String call, long got, long want) {
+        if (got == want) {
+            passed++;
+        } else {
+            failed++;
+            System.out.println(call + " answered " + got + ", due is " + want);
+        }
+    }
+
+    static void holds(String what, boolean so) {
+        due(what, so ? 1 : 0, 1);
+    }
+
+    /** Fills a SHEET with numbers of a SORT. */
+    static void fill(ByHand x, int sheet, int sort, int... numbers) {
+        due("sheet", x.sheet(sheet, sort, numbers.length), 1);
+        for (int i = 0; i < numbers.length; i++) {
+            due("put", x.put(sheet, i, numbers[i]), 1);
+        }
+    }
+
+    /** Gives a TEXT to an object by SHEET 0 and what its market answers. */
+    static int market(ByHand x, String text) {
+        int[] codes = new int[text.length()];
+        for (int i = 0; i < codes.length; i++) {
+            codes[i] = text.charAt(i);
+        }
+        fill(x, 0, 0, codes);
+        return x.market(0, 0, 0, codes.length);
+    }
+
+    /** A new object with a MARKET of such WEIGHTS. */
+    static ByHand with(int... weights) {
+        ByHand x = new ByHand();
+        StringBuilder text = new StringBuilder();
+        for (int weight : weights) {
+            text.append(text.length() == 0 ? "" : ";").append(String.format("%03d", weight));
+        }
+        due("market " + text, market(x, text.toString()), weights.length);
+        return x;
+    }
+
+    /** Prints the count of a test and ends with exit code 1 if an answer was not as due. */
+    static void end(String test) {
+        System.out.println(test + ": " + passed + " passed, " + failed + " failed");
+        if (failed != 0 || passed == 0) {
+            System.exit(1);
+        }
+    }
+}
