@@ -82,9 +82,6 @@ public final class ByHand {
         if (things.count() == 0) {
             return STATE;
         }
-        if (hands.count() >= MOST_HANDS) {
-            return FULL;
-        }
         return hands.add(kind, part);
     }
 
@@ -188,9 +185,6 @@ public final class ByHand {
         }
         if (said != SAID_ALIKE && said != SAID_HEAVIER) {
             return OUTSIDE;
-        }
-        if (sayings.count() >= MOST_SAYINGS) {
-            return FULL;
         }
         return sayings.add(h, x, y, said);
     }
@@ -718,6 +712,7 @@ public final class ByHand {
             count = 0;
         }
 
+        /** The number of the new HAND, or FULL. */
         int add(int kind, int part) {
             if (count >= MOST_HANDS) {
                 return FULL;
@@ -792,6 +787,7 @@ public final class ByHand {
             count = 0;
         }
 
+        /** The number of the new SAYING, or FULL. */
         int add(int h, int x, int y, int said) {
             if (count >= MOST_SAYINGS) {
                 return FULL;

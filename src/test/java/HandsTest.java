@@ -102,6 +102,11 @@ public final class HandsTest {
         x.weigh(2, 126);
         Check.due("not by WEIGHTS now", x.finer(1, 0), 0);
         Check.due("UNKNOWN", x.finer(4, 0), ByHand.UNKNOWN);
+        ByHand two = Check.with(108, 100);
+        two.hand(0, 10);
+        two.hand(1, 10);
+        Check.due("by the first THING alone", two.finer(1, 0), 1);
+        Check.due("not the other way", two.finer(0, 1), 0);
         Check.due("UNKNOWN than", x.finer(0, 4), ByHand.UNKNOWN);
         Check.due("UNKNOWN -1", x.finer(-1, 0), ByHand.UNKNOWN);
         Check.due("UNKNOWN than -1", x.finer(0, -1), ByHand.UNKNOWN);

@@ -74,6 +74,8 @@ public final class RowsTest {
         Check.due("HAND -1", x.crowd(-1), ByHand.UNKNOWN);
         x.weigh(3, 120);
         Check.due("more are better than the least", x.crowd(0), 0b11100);
+        x.weigh(3, 199);
+        Check.due("all", x.crowd(1), 0b11111);
     }
 
     private static void promise21Measure() {
@@ -177,7 +179,11 @@ public final class RowsTest {
         best(x, 100, 0, 4, 196, 2, 0, 1, 3);
         best(x, 1, 0, 5, 3, 0, 1, 2, 3, 3);
         best(x, 100, 4, 3, 417, 0, 3, 3);
+        best(x, 999, 0, 1, 1998 - 500, 3);
         Check.due("cells stay", x.cell(1, 0, 2), 3);
+        Check.fill(x, 1, 2, 2, 2, 0, 0, 0);
+        // 2, 2, 0, 0, 0 has as little (143 less 70), but is not the first.
+        best(x, 100, 0, 5, 143 - 70, 2, 0, 0, 0, 2);
     }
 
     private static void best(ByHand x, int weight, int i, int n, int spread, int... row) {
@@ -230,6 +236,17 @@ public final class RowsTest {
         even(x, 0b0011, 0b1100);
         x.weigh(3, 999);
         even(x, 0b0001, 0b0010);
+        // By PART 20 209 is told from 199, as 10 * 20 is more than it, but not from 200.
+        x = Check.with(209, 100, 99);
+        x.hand(0, 20);
+        even(x, 0b010, 0b100);
+        x.weigh(2, 100);
+        even(x, 0b001, 0b110);
+        x = Check.with(199, 100, 109);
+        x.hand(0, 20);
+        even(x, ByHand.NONE, ByHand.NONE);
+        x.weigh(0, 200);
+        even(x, 0b001, 0b110);
         // The heavier set may be the first one: 300 and 100 against 200 and 190.
         x = Check.with(300, 100, 200, 190);
         x.hand(0, 20);
@@ -254,6 +271,9 @@ public final class RowsTest {
         x = Check.with(1, 10, 100);
         x.hand(1, 3);
         odds(x, 1, 1);
+        x = Check.with(100, 1, 1);
+        x.hand(0, 3);
+        odds(x, 2, 3);
         Check.due("which 2", x.odds(0, 2), ByHand.LOST);
         Check.due("which -1", x.odds(0, -1), ByHand.LOST);
         Check.due("HAND 1", x.odds(1, 0), ByHand.LOST);

@@ -117,6 +117,23 @@ public final class SayingsTest {
         Check.due("UNKNOWN first", x.breaks(3, 2), ByHand.UNKNOWN);
         Check.due("THING -1", x.breaks(-1, 0), ByHand.UNKNOWN);
         Check.due("it changes nothing", x.weight(0), 100);
+        breaksAtTheEnds();
+    }
+
+    private static void breaksAtTheEnds() {
+        ByHand x = Check.with(100, 499);
+        x.hand(0, 1);
+        x.saying(0, 0, 1, 1);
+        leaves(x, 0, 1, 999, 999);
+        breaks(x, 0, 0, 999);
+        x.weigh(1, 500);
+        leaves(x, 0, 0, ByHand.NONE, ByHand.NONE);
+        for (int s = 1; s < 10; s++) {
+            x.saying(0, 0, 1, 1);
+        }
+        breaks(x, 0, 10, 1);
+        x.weigh(1, 1);
+        breaks(x, 0, 0, 3);
     }
 
     private static void breaks(ByHand x, int thing, int many, int weight) {

@@ -100,6 +100,29 @@ public final class SwapsTest {
         x.hand(0, 10);
         x.hand(1, 20);
         Check.due("at once or by two", x.gain(0, 1, 0, 8, 1), 1);
+        promise12GainBack();
+    }
+
+    private static void promise12GainBack() {
+        ByHand x = Check.with(121, 110, 100, 104);
+        x.hand(0, 10);
+        x.hand(1, 20);
+        Check.due("to 0", x.gain(0, 1, 2, 8, 0), 121);
+        Check.due("to 0, swaps", x.gain(0, 1, 2, 8, 1), 2);
+        // By 110 and by 104 at once: 104 alone comes to 114 at most.
+        Check.due("what is got by one swap of several", x.gain(0, 1, 2, 1, 0), 110);
+        Check.due("not down", x.gain(0, 1, 0, 8, 0), 121);
+        Check.due("not down, swaps", x.gain(0, 1, 0, 8, 1), 0);
+        x = Check.with(500, 100, 400, 110, 104);
+        x.hand(0, 10);
+        x.hand(1, 20);
+        Check.due("nothing heavier that is not alike", x.gain(0, 1, 3, 8, 0), 110);
+        Check.due("up by one", x.gain(0, 1, 1, 8, 0), 110);
+        x = Check.with(100, 109, 104, 118);
+        x.hand(0, 10);
+        x.hand(1, 20);
+        // 118 comes of 109 alone, not of 104, which is got at the same swap.
+        Check.due("by one of two", x.gain(0, 1, 0, 2, 0), 118);
     }
 
     private static void promise12Refusals() {
