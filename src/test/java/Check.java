@@ -1,7 +1,13 @@
+import java.lang.reflect.InvocationTargetException;
+import java.lang.reflect.Method;
+import java.util.Arrays;
+import java.util.Comparator;
+
 /** What all tests share: it counts answers that are due and prints those that are not. */
 final class Check {
     private static int passed = 0;
     private static int failed = 0;
+    private static String test = "";
 
     private Check() {
     }
@@ -11,7 +17,7 @@ final class Check {
             passed++;
         } else {
             failed++;
-            System.out.println(call + " answered " + got + ", due is " + want);
+            System.out.println(test + call + " answered " + got + ", due is " + want);
         }
     }
 
@@ -46,6 +52,35 @@ final class Check {
         }
         due("market " + text, market(x, text.toString()), weights.length);
         return x;
+    }
+
+    /** Calls all methods of a class whose names begin with a promise's, so that none is forgotten, and ends. */
+    static void all(Class<?> tests) throws ReflectiveOperationException {
+        Method[] methods = tests.getDeclaredMethods();
+        Arrays.sort(methods, Comparator.comparing(Method::getName));
+        int called = 0;
+        for (Method method : methods) {
+            if (method.getName().startsWith("promise")) {
+                test = method.getName() + ": ";
+                called += passes(method);
+            }
+        }
+        test = "";
+        holds("there are tests", called > 0);
+        end(tests.getSimpleName() + " (" + called + " tests)");
+    }
+
+    /** Calls one test; it counts for nothing if it asks for nothing. */
+    private static int passes(Method method) throws ReflectiveOperationException {
+        int before = passed + failed;
+        try {
+            method.invoke(null);
+        } catch (InvocationTargetException e) {
+            e.getCause().printStackTrace();
+            holds("ends without a throw", false);
+        }
+        holds("asks for something", passed + failed > before);
+        return 1;
     }
 
     /** Prints the count of a test and ends with exit code 1 if an answer was not as due. */
