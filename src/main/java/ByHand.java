@@ -725,7 +725,10 @@ public final class ByHand {
 
         /** By how much a HAND multiplies what one WEIGHT is more than the other one. */
         private int timesOf(int h) {
-            return kindOf(h) == PLAIN ? partOf(h) : 2 * partOf(h);
+            if (!has(h)) {
+                return 1;
+            }
+            return kinds[h] == PLAIN ? parts[h] : 2 * parts[h];
         }
 
         boolean feelsHeavier(int h, int weight, int than) {
@@ -863,10 +866,10 @@ public final class ByHand {
         boolean isFinerThan(Telling other) {
             boolean more = false;
             for (int x = 0; x < count; x++) {
-                if ((other.lighterThan(x) & ~lighter[x]) != 0) {
+                if ((other.lighterThan(x) & ~lighterThan(x)) != 0) {
                     return false;
                 }
-                more = more || other.lighterThan(x) != lighter[x];
+                more = more || other.lighterThan(x) != lighterThan(x);
             }
             return more;
         }
@@ -883,7 +886,7 @@ public final class ByHand {
         private int alikeToAny(int set) {
             int any = 0;
             for (int x = 0; x < count; x++) {
-                any |= isIn(set, x) ? alikes[x] : 0;
+                any |= isIn(set, x) ? alikeTo(x) : 0;
             }
             return any;
         }
@@ -921,17 +924,18 @@ public final class ByHand {
 
         /** In how many orders the THINGS can be laid, from how many there are for each set that is laid first. */
         int countOrders() {
-            int all = allThings();
-            for (int laid = 1; laid <= all && laid < SETS_OF_THINGS; laid++) {
-                orders[laid] = 0;
+            int many = 0;
+            for (int laid = 1; laid <= allThings() && laid < SETS_OF_THINGS; laid++) {
+                many = 0;
                 for (int last = 0; last < count; last++) {
                     int ahead = laid & ~(1 << last);
-                    if (ahead != laid && (lighter[last] & ~ahead) == 0) {
-                        orders[laid] += ahead == 0 ? 1 : orders[ahead];
+                    if (ahead != laid && (lighterThan(last) & ~ahead) == 0) {
+                        many += ahead == 0 ? 1 : orders[ahead];
                     }
                 }
+                orders[laid] = many;
             }
-            return orders[all];
+            return many;
         }
 
         /** The q-th THING of the first order: the least one that fits is right each time, as what is left can always be laid. */
@@ -948,7 +952,7 @@ public final class ByHand {
         private int fittingBehind(int laid) {
             int fitting = 0;
             for (int x = 0; x < count; x++) {
-                if (!isIn(laid, x) && (lighter[x] & ~laid) == 0) {
+                if (!isIn(laid, x) && (lighterThan(x) & ~laid) == 0) {
                     fitting |= 1 << x;
                 }
             }
@@ -968,7 +972,7 @@ public final class ByHand {
         private int heavierThanAny(int set) {
             int heavier = 0;
             for (int x = 0; x < count; x++) {
-                if ((lighter[x] & set) != 0) {
+                if ((lighterThan(x) & set) != 0) {
                     heavier |= 1 << x;
                 }
             }
@@ -987,7 +991,7 @@ public final class ByHand {
 
         private boolean areAllAlike(int set) {
             for (int x = 0; x < count; x++) {
-                if (isIn(set, x) && (set & ~alikes[x]) != 0) {
+                if (isIn(set, x) && (set & ~alikeTo(x)) != 0) {
                     return false;
                 }
             }
@@ -998,7 +1002,7 @@ public final class ByHand {
         int countTold() {
             int told = 0;
             for (int x = 0; x < count; x++) {
-                told += Integer.bitCount(lighter[x]);
+                told += Integer.bitCount(lighterThan(x));
             }
             return told;
         }
@@ -1021,10 +1025,22 @@ public final class ByHand {
             }
         }
 
+        private boolean has(int place) {
+            return place >= 0 && place < count && place < MOST_IN_ROW;
+        }
+
+        private int inRow(int place) {
+            return has(place) ? row[place] : UNKNOWN;
+        }
+
+        int inBest(int q) {
+            return has(q) ? best[q] : UNKNOWN;
+        }
+
         int greatestCopy(Hands hands, int weight) {
             int copy = weight;
             for (int place = 0; place < count; place++) {
-                copy = hands.greatestUntold(row[place], copy);
+                copy = hands.greatestUntold(inRow(place), copy);
             }
             return copy;
         }
@@ -1032,7 +1048,7 @@ public final class ByHand {
         int leastCopy(Hands hands, int weight) {
             int copy = weight;
             for (int place = 0; place < count; place++) {
-                copy = hands.leastUntold(row[place], copy);
+                copy = hands.leastUntold(inRow(place), copy);
             }
             return copy;
         }
@@ -1056,19 +1072,15 @@ public final class ByHand {
             return leastSpread;
         }
 
-        int inBest(int q) {
-            return q >= 0 && q < count && q < MOST_IN_ROW ? best[q] : UNKNOWN;
-        }
-
         private void keepAsBest() {
-            for (int place = 0; place < count; place++) {
+            for (int place = 0; place < count && place < MOST_IN_ROW; place++) {
                 best[place] = row[place];
             }
         }
 
         private void sortRow() {
             for (int place = 1; place < count; place++) {
-                for (int at = place; at > 0 && row[at - 1] > row[at]; at--) {
+                for (int at = place; at > 0 && inRow(at - 1) > inRow(at); at--) {
                     exchange(at - 1, at);
                 }
             }
@@ -1077,14 +1089,14 @@ public final class ByHand {
         /** Turns the row into the next greater one of the same numbers; false if it is the last one. */
         private boolean toNextOrder() {
             int rise = count - 2;
-            while (rise >= 0 && row[rise] >= row[rise + 1]) {
+            while (rise >= 0 && inRow(rise) >= inRow(rise + 1)) {
                 rise--;
             }
             if (rise < 0) {
                 return false;
             }
             int greater = count - 1;
-            while (greater > rise && row[greater] <= row[rise]) {
+            while (greater > rise && inRow(greater) <= inRow(rise)) {
                 greater--;
             }
             exchange(rise, greater);
@@ -1095,9 +1107,11 @@ public final class ByHand {
         }
 
         private void exchange(int a, int b) {
-            int kept = row[a];
-            row[a] = row[b];
-            row[b] = kept;
+            if (has(a) && has(b)) {
+                int kept = row[a];
+                row[a] = row[b];
+                row[b] = kept;
+            }
         }
     }
 
@@ -1122,7 +1136,7 @@ public final class ByHand {
 
         /** Whether n cells from i on are there; i and n are compared apart, as their sum could wrap. */
         boolean hasCells(int k, int i, int n) {
-            return hasRow(k) && i >= 0 && n >= 0 && i <= lengths[k] && n <= lengths[k] - i;
+            return has(k) && filled[k] && i >= 0 && n >= 0 && i <= lengths[k] && n <= lengths[k] - i;
         }
 
         int faultOfTaking(int k, int sort, int i, int n) {
